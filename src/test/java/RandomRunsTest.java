@@ -1,0 +1,197 @@
+import java.util.Random;
+
+/**
+ * Seeded random runs on an EquationDesk and on a NaiveDesk side by side: every answer, and after
+ * the runs every place, rule and pair, must be the same. An argument gives the number of runs.
+ */
+public final class RandomRunsTest {
+    private static final int SHOWN = 20;
+
+    private final Random random;
+    private final long seed;
+    private final EquationDesk desk = new EquationDesk();
+    private final NaiveDesk naive = new NaiveDesk();
+    private final int[] arities = new int[10];
+    private int symbols;
+    private int wrong;
+    private int calls;
+
+    private RandomRunsTest(long seed) {
+        this.seed = seed;
+        this.random = new Random(seed);
+    }
+
+    public static void main(String[] args) {
+        int runs = args.length > 0 ? Integer.parseInt(args[0]) : 1500;
+        int wrong = 0;
+        int[] ends = new int[4];
+        for (int i = 0; i < runs && wrong < SHOWN; i++) {
+            RandomRunsTest run = new RandomRunsTest(i);
+            run.run();
+            wrong += run.wrong;
+            ends[run.naive.complete(0)]++;
+        }
+        System.out.println(runs + " random runs, ends " + ends[0] + " " + ends[1] + " " + ends[2]
+            + " " + ends[3] + ", " + wrong + " wrong");
+        if (wrong > 0) {
+            System.exit(1);
+        }
+    }
+
+    private void due(String call, long got, long want) {
+        calls++;
+        if (got != want) {
+            wrong++;
+            if (wrong < SHOWN) {
+                System.out.println("seed " + seed + " call " + calls + ": " + call + " answered " + got
+                    + ", due is " + want);
+            }
+        }
+    }
+
+    private void due(String call, boolean got, boolean want) {
+        due(call, got ? 1 : 0, want ? 1 : 0);
+    }
+
+    private void run() {
+        makeSymbols();
+        for (int i = 0; i < 16; i++) {
+            makeTerm(i, 1 + random.nextInt(random.nextBoolean() ? 4 : 9));
+        }
+        int style = random.nextInt(4);
+        int length = 60 + random.nextInt(400);
+        for (int i = 0; i < length && wrong == 0; i++) {
+            call(style);
+        }
+        compareAll();
+    }
+
+    private void makeSymbols() {
+        int many = 2 + random.nextInt(4);
+        for (int i = 0; i < many; i++) {
+            int arity = i == 0 ? 0 : random.nextInt(3);
+            defineSymbol(arity, arity == 2 && random.nextInt(3) > 0);
+        }
+        defineSymbol(2, random.nextBoolean());
+        if (random.nextInt(3) == 0) {
+            defineSymbol(1, false);
+        }
+    }
+
+    private void defineSymbol(int arity, boolean commutative) {
+        int got = desk.symbol(arity, commutative);
+        due("symbol(" + arity + ", " + commutative + ")", got, naive.symbol(arity, commutative));
+        if (got >= 0 && got < 10) {
+            arities[got] = arity;
+            symbols = got + 1;
+        }
+    }
+
+    /** Builds a term of about so many symbols, of terms in places behind the place. */
+    private void makeTerm(int place, int weight) {
+        int symbol = random.nextInt(symbols);
+        if (weight <= 1 || place >= 15) {
+            if (random.nextInt(4) == 0 && arities[symbol] == 0) {
+                putTerm(place, symbol, 0, 0);
+            } else {
+                putVariable(place, random.nextInt(random.nextInt(3) == 0 ? 6 : 3));
+            }
+            return;
+        }
+        for (int i = 0; i < 5 && arities[symbol] == 0; i++) {
+            symbol = random.nextInt(symbols);
+        }
+        int first = arities[symbol] == 2 ? random.nextInt(weight) : weight - 1;
+        makeTerm(place, first);
+        if (arities[symbol] == 2) {
+            makeTerm(place + 1, weight - 1 - first);
+        }
+        putTerm(place, symbol, place, place + 1);
+    }
+
+    private void putVariable(int place, int variable) {
+        due("variable(" + place + ", " + variable + ")", desk.variable(place, variable),
+            naive.variable(place, variable));
+    }
+
+    private void putTerm(int place, int symbol, int first, int second) {
+        due("term(" + place + ", " + symbol + ", " + first + ", " + second + ")",
+            desk.term(place, symbol, first, second), naive.term(place, symbol, first, second));
+    }
+
+    private int place() {
+        return random.nextInt(40) == 0 ? random.nextInt(40) - 20 : random.nextInt(16);
+    }
+
+    private void call(int style) {
+        int a = place();
+        int b = place();
+        int to = place();
+        int i = random.nextInt(5) - (random.nextInt(8) == 0 ? 1 : 0);
+        switch (random.nextInt(style == 0 ? 26 : 20)) {
+            case 0 -> defineSymbol(random.nextInt(5) - 1, random.nextBoolean());
+            case 1 -> putVariable(a, random.nextInt(8) - 1);
+            case 2, 3 -> putTerm(to, random.nextInt(symbols + 1) - random.nextInt(2), a, b);
+            case 4, 5 -> makeTerm(random.nextInt(16), 1 + random.nextInt(style == 1 ? 22 : 8));
+            case 6 -> due("size(" + a + ")", desk.size(a), naive.size(a));
+            case 7 -> due("node(" + a + ", " + i + ")", desk.node(a, i), naive.node(a, i));
+            case 8 -> due("same(" + a + ", " + b + ")", desk.same(a, b), naive.same(a, b));
+            case 9 -> due("greater(" + a + ", " + b + ")", desk.greater(a, b), naive.greater(a, b));
+            case 10 -> due("matches(" + a + ", " + b + ")", desk.matches(a, b), naive.matches(a, b));
+            case 11 -> match(a, b, i, to);
+            case 12 -> due("unifiers(" + a + ", " + b + ")", desk.unifiers(a, b), naive.unifiers(a, b));
+            case 13 -> due("unifier(" + a + ", " + b + ", " + i + ", " + to + ")",
+                desk.unifier(a, b, i, to), naive.unifier(a, b, i, to));
+            case 14 -> due("equation(" + a + ", " + b + ")", desk.equation(a, b), naive.equation(a, b));
+            case 15 -> complete(style);
+            case 16 -> due("rule(" + i + ", .., " + to + ")", desk.rule(i, i < 2, to), naive.rule(i, i < 2, to));
+            case 17 -> due("pair(" + i + ", .., " + to + ")", desk.pair(i, i < 2, to), naive.pair(i, i < 2, to));
+            case 18 -> due("reduce(" + a + ", " + to + ")", desk.reduce(a, to), naive.reduce(a, to));
+            case 19 -> due("prove(" + a + ", " + b + ")", desk.prove(a, b), naive.prove(a, b));
+            default -> due("matches(" + a + ", " + a + ")", desk.matches(a, a), naive.matches(a, a));
+        }
+    }
+
+    private void match(int a, int b, int i, int to) {
+        int variable = random.nextInt(7);
+        due("match(" + a + ", " + b + ", " + i + ", " + variable + ", " + to + ")",
+            desk.match(a, b, i, variable, to), naive.match(a, b, i, variable, to));
+    }
+
+    private void complete(int style) {
+        if (style < 2 && random.nextInt(3) > 0) {
+            return;
+        }
+        int n = random.nextInt(style == 2 ? 4 : 33) - 1;
+        due("complete(" + n + ")", desk.complete(n), naive.complete(n));
+        due("rules()", desk.rules(), naive.rules());
+        due("waiting()", desk.waiting(), naive.waiting());
+    }
+
+    private void compareAll() {
+        for (int p = 0; p < 16; p++) {
+            comparePlace("place " + p, p);
+        }
+        due("rules()", desk.rules(), naive.rules());
+        due("waiting()", desk.waiting(), naive.waiting());
+        for (int i = 0; i < naive.rules() && wrong == 0; i++) {
+            due("rule", desk.rule(i, false, 0), naive.rule(i, false, 0));
+            due("rule", desk.rule(i, true, 1), naive.rule(i, true, 1));
+            comparePlace("left " + i, 0);
+            comparePlace("right " + i, 1);
+        }
+        for (int i = 0; i < naive.waiting() && wrong == 0; i++) {
+            due("pair", desk.pair(i, false, 0), naive.pair(i, false, 0));
+            due("pair", desk.pair(i, true, 1), naive.pair(i, true, 1));
+            comparePlace("first " + i, 0);
+            comparePlace("second " + i, 1);
+        }
+    }
+
+    private void comparePlace(String what, int place) {
+        due(what, desk.size(place), naive.size(place));
+        for (int i = 0; i < naive.size(place) && wrong == 0; i++) {
+            due(what + " node " + i, desk.node(place, i), naive.node(place, i));
+        }
+    }
+}
