@@ -173,7 +173,7 @@ public final class EquationDesk {
         if (!isPlace(a) || !isPlace(b) || completion.pairs.count >= MOST_PAIRS) {
             return false;
         }
-        renaming.rename(places[a], places[b]);
+        renaming.rename(places[a], places[a].length, places[b], places[b].length);
         completion.pairs.add(renaming.first, renaming.second);
         return true;
     }
@@ -438,16 +438,16 @@ public final class EquationDesk {
         }
 
         /** False if there are too many variables. */
-        boolean rename(int[] a, int[] b) {
+        boolean rename(int[] a, int aLength, int[] b, int bLength) {
             Arrays.fill(names, NONE);
             used = 0;
-            first = renamed(a);
-            second = renamed(b);
+            first = renamed(a, aLength);
+            second = renamed(b, bLength);
             return used <= VARIABLES;
         }
 
-        private int[] renamed(int[] nodes) {
-            int[] result = nodes.clone();
+        private int[] renamed(int[] nodes, int length) {
+            int[] result = Arrays.copyOf(nodes, length);
             for (int i = 0; i < result.length; i++) {
                 int code = result[i];
                 if (code < ALL_VARIABLES) {
@@ -575,8 +575,11 @@ public final class EquationDesk {
         private final Signature signature;
         private final Tank tank;
         private final int[] goesWith = new int[MOST_NODES];
-        private final Row choices = new Row(MOST_NODES);
-        private final Row found = new Row(MOST_NODES);
+        /** A node that may still go crosswise, and what was bound there, one behind the other. */
+        private final int[] choices = new int[2 * MOST_NODES];
+        private int open;
+        private int[] found = new int[MOST_NODES];
+        private int count;
         private int[] pattern = {0};
         private int[] term = {0};
         private int start;
@@ -594,8 +597,8 @@ public final class EquationDesk {
             term = termNodes;
             start = at;
             bound = 0;
-            choices.length = 0;
-            found.length = 0;
+            open = 0;
+            count = 0;
             goesWith[0] = at;
             int next = 0;
             for (int turn = 0; turn < FAR && next != NONE; turn++) {
@@ -612,12 +615,12 @@ public final class EquationDesk {
                     next = takePair(next, part, partSize) ? next + 1 : turnCrosswise();
                 }
             }
-            return found.length;
+            return count;
         }
 
         /** Where the term's part begins that a variable has in a match, or NONE. */
         int boundTo(int i, int variable) {
-            int place = found.cells[i] >> (BITS * variable) & MASK;
+            int place = found[i] >> (BITS * variable) & MASK;
             return place == 0 ? NONE : start + place - 1;
         }
 
@@ -639,15 +642,20 @@ public final class EquationDesk {
                 goesWith[signature.end(pattern, node + 1)] = signature.end(term, part + 1);
             }
             if (signature.isCommutative(code)) {
-                choices.add(node);
-                choices.add(bound);
+                choices[open] = node;
+                choices[open + 1] = bound;
+                open += 2;
             }
             return true;
         }
 
         private int firstLike(int part, int size) {
             for (int i = start; i < part; i++) {
-                if (haveSameNodes(term, i, term, part, size)) {
+                int same = 0;
+                while (same < size && term[i + same] == term[part + same]) {
+                    same++;
+                }
+                if (same == size) {
                     return i;
                 }
             }
@@ -655,22 +663,26 @@ public final class EquationDesk {
         }
 
         private void keep() {
-            for (int i = 0; i < found.length; i++) {
-                if (found.cells[i] == bound) {
+            for (int i = 0; i < count; i++) {
+                if (found[i] == bound) {
                     return;
                 }
             }
-            found.add(bound);
+            if (count == found.length) {
+                found = Arrays.copyOf(found, 2 * count);
+            }
+            found[count] = bound;
+            count++;
         }
 
         /** The next node of the way that turns off last, or NONE if there is none. */
         private int turnCrosswise() {
-            if (choices.length < 2) {
+            if (open == 0) {
                 return NONE;
             }
-            choices.length -= 2;
-            int node = choices.cells[choices.length];
-            bound = choices.cells[choices.length + 1];
+            open -= 2;
+            int node = choices[open];
+            bound = choices[open + 1];
             int part = goesWith[node];
             goesWith[node + 1] = signature.end(term, part + 1);
             goesWith[signature.end(pattern, node + 1)] = part + 1;
@@ -777,6 +789,7 @@ public final class EquationDesk {
         private static final int FAILS = 1;
         private static final int STOPS = 2;
         private static final int ENDS = 3;
+        private static final int BINDS = 4;
         private static final int CHOICE = 5 + ALL_VARIABLES;
 
         private final Signature signature;
@@ -788,6 +801,9 @@ public final class EquationDesk {
         private final Row foundAt = new Row(2 * ALL_VARIABLES);
         private final int[] boundAt = new int[ALL_VARIABLES];
         private int next;
+        /** What the pair that was just taken binds, and where its term begins. */
+        private int variable;
+        private int value;
         private int ways;
         private int count;
 
@@ -801,6 +817,9 @@ public final class EquationDesk {
             begin(a, higher, b, at);
             for (int turn = 0; turn < FAR; turn++) {
                 int state = next == NONE ? ENDS : takePair();
+                if (state == BINDS) {
+                    state = bind();
+                }
                 if (state == STOPS) {
                     return TOO_MANY;
                 }
@@ -874,11 +893,11 @@ public final class EquationDesk {
             }
             int f = nodes.cells[a];
             int g = nodes.cells[b];
-            if (f < ALL_VARIABLES && (g >= ALL_VARIABLES || f > g)) {
-                return bind(f, b, bSize);
-            }
-            if (g < ALL_VARIABLES) {
-                return bind(g, a, aSize);
+            if (f < ALL_VARIABLES || g < ALL_VARIABLES) {
+                boolean first = g >= ALL_VARIABLES || (f < ALL_VARIABLES && f > g);
+                variable = first ? f : g;
+                value = first ? b : a;
+                return BINDS;
             }
             if (f != g) {
                 return FAILS;
@@ -895,14 +914,15 @@ public final class EquationDesk {
             return GOES_ON;
         }
 
-        private int bind(int variable, int at, int size) {
-            for (int i = at; i < at + size; i++) {
+        private int bind() {
+            int end = signature.end(nodes.cells, value);
+            for (int i = value; i < end; i++) {
                 if (nodes.cells[i] == variable) {
                     return FAILS;
                 }
             }
-            boundAt[variable] = at;
-            boolean fits = size <= MOST_NODES;
+            boundAt[variable] = value;
+            boolean fits = end - value <= MOST_NODES;
             for (int i = 0; i < ALL_VARIABLES && fits; i++) {
                 if (boundAt[i] != NONE && i != variable) {
                     boundAt[i] = withBindings(boundAt[i]);
@@ -1053,15 +1073,15 @@ public final class EquationDesk {
             if (!inOrder && !order.isAbove(second, first)) {
                 return STEP_STUCK;
             }
-            if (!renaming.rename(inOrder ? first : second, inOrder ? second : first)) {
+            int[] left = inOrder ? first : second;
+            int[] right = inOrder ? second : first;
+            if (!renaming.rename(left, left.length, right, right.length)) {
                 return limit();
             }
-            int[] left = renaming.first;
-            int[] right = renaming.second;
-            if (!partRules(left) || staying.count >= MOST_RULES) {
+            if (!partRules(renaming.first) || staying.count >= MOST_RULES) {
                 return limit();
             }
-            staying.add(left, right);
+            staying.add(renaming.first, renaming.second);
             if (!reduceRights()) {
                 return limit();
             }
@@ -1186,7 +1206,7 @@ public final class EquationDesk {
             }
             signature.sort(overlapped.cells, 0, overlapped.length);
             signature.sort(other.cells, 0, other.length);
-            if (!renaming.rename(overlapped.copy(), other.copy())) {
+            if (!renaming.rename(overlapped.cells, overlapped.length, other.cells, other.length)) {
                 return false;
             }
             draftPairs.add(renaming.first, renaming.second);

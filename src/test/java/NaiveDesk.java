@@ -16,6 +16,10 @@ final class NaiveDesk {
 
     static final class Limit extends RuntimeException {
         private static final long serialVersionUID = 1;
+
+        Limit(String why) {
+            super(why);
+        }
     }
 
     static final class Stuck extends RuntimeException {
@@ -68,9 +72,15 @@ final class NaiveDesk {
     boolean limited;
     int ways;
     int rewritings;
+    /** What was met, and how often, over all desks: tells what a random test has reached. */
+    static final Map<String, Integer> MET = new java.util.TreeMap<>();
 
     NaiveDesk() {
         java.util.Arrays.fill(places, var(0));
+    }
+
+    private static void met(String what) {
+        MET.merge(what, 1, Integer::sum);
     }
 
     static Term var(int v) {
@@ -235,7 +245,7 @@ final class NaiveDesk {
     private void endWay() {
         ways++;
         if (ways > 1000) {
-            throw new Limit();
+            throw new Limit("ways");
         }
     }
 
@@ -244,7 +254,7 @@ final class NaiveDesk {
             if (!found.contains(bindings)) {
                 found.add(bindings);
                 if (found.size() > 32) {
-                    throw new Limit();
+                    throw new Limit("unifiers");
                 }
             }
             endWay();
@@ -271,7 +281,7 @@ final class NaiveDesk {
             more.put(v, value);
             for (Term x : more.values()) {
                 if (x.nodes() > 24) {
-                    throw new Limit();
+                    throw new Limit("binding");
                 }
             }
             unify(rest, more, found);
@@ -309,8 +319,11 @@ final class NaiveDesk {
                 if (!found.isEmpty()) {
                     Term next = with(rule.b, found.get(0));
                     rewritings++;
-                    if (rewritings > 1000 || next.nodes() + outside > 24) {
-                        throw new Limit();
+                    if (rewritings > 1000) {
+                        throw new Limit("rewritings");
+                    }
+                    if (next.nodes() + outside > 24) {
+                        throw new Limit("rewritten size");
                     }
                     return reduced(next, by, outside);
                 }
@@ -330,7 +343,7 @@ final class NaiveDesk {
             }
         }
         if (names.size() > 6) {
-            throw new Limit();
+            throw new Limit("variables");
         }
         return new Two(with(a, names), with(b, names));
     }
@@ -368,7 +381,7 @@ final class NaiveDesk {
                     Term a = with(replaced(q.a, i, higher(p.b)), u);
                     Term b = with(q.b, u);
                     if (a.nodes() > 24 || b.nodes() > 24) {
-                        throw new Limit();
+                        throw new Limit("critical size");
                     }
                     result.add(renamed(a, b));
                 }
@@ -404,6 +417,7 @@ final class NaiveDesk {
         nextPairs.remove(at);
         if (a.equals(b)) {
             pairs = nextPairs;
+            met("step same");
             return;
         }
         if (!above(a, b) && !above(b, a)) {
@@ -416,7 +430,7 @@ final class NaiveDesk {
         }
         stay.add(added);
         if (stay.size() > 16) {
-            throw new Limit();
+            throw new Limit("rules");
         }
         List<Two> nextRules = new ArrayList<>();
         for (Two rule : stay) {
@@ -429,8 +443,9 @@ final class NaiveDesk {
             }
         }
         if (nextPairs.size() > 60) {
-            throw new Limit();
+            throw new Limit("pairs");
         }
+        met(stay.size() <= rules.size() ? "step rules went" : "step new rule");
         rules = nextRules;
         pairs = nextPairs;
     }
@@ -516,6 +531,7 @@ final class NaiveDesk {
         try {
             return allMatches(places[pattern], places[term]).size();
         } catch (OutOfFuel e) {
+            met("matches fuel");
             return NONE;
         }
     }
@@ -542,6 +558,7 @@ final class NaiveDesk {
         try {
             return allUnifiers(places[a], places[b]).size();
         } catch (OutOfFuel | Limit e) {
+            met("unifiers " + (e instanceof Limit ? e.getMessage() : "fuel"));
             return 33;
         }
     }
@@ -574,8 +591,10 @@ final class NaiveDesk {
                 step();
             } catch (OutOfFuel | Limit e) {
                 limited = true;
+                met("step " + (e instanceof Limit ? e.getMessage() : "fuel"));
             } catch (Stuck e) {
                 stuck = true;
+                met("step stuck");
             }
         }
         return limited ? 3 : stuck ? 2 : pairs.isEmpty() ? 1 : 0;
@@ -613,6 +632,7 @@ final class NaiveDesk {
             places[to] = reduced(places[place], rules);
             return true;
         } catch (OutOfFuel | Limit e) {
+            met("reduce " + (e instanceof Limit ? e.getMessage() : "fuel"));
             return false;
         }
     }
@@ -623,11 +643,13 @@ final class NaiveDesk {
         }
         try {
             if (reduced(places[a], rules).equals(reduced(places[b], rules))) {
+                met("prove 1");
                 return 1;
             }
         } catch (OutOfFuel | Limit e) {
             return 2;
         }
+        met(pairs.isEmpty() ? "prove 0" : "prove 2");
         return pairs.isEmpty() ? 0 : 2;
     }
 }

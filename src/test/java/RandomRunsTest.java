@@ -24,15 +24,13 @@ public final class RandomRunsTest {
     public static void main(String[] args) {
         int runs = args.length > 0 ? Integer.parseInt(args[0]) : 1500;
         int wrong = 0;
-        int[] ends = new int[4];
         for (int i = 0; i < runs && wrong < SHOWN; i++) {
             RandomRunsTest run = new RandomRunsTest(i);
             run.run();
             wrong += run.wrong;
-            ends[run.naive.complete(0)]++;
         }
-        System.out.println(runs + " random runs, ends " + ends[0] + " " + ends[1] + " " + ends[2]
-            + " " + ends[3] + ", " + wrong + " wrong");
+        System.out.println("met " + NaiveDesk.MET);
+        System.out.println(runs + " random runs, " + wrong + " wrong");
         if (wrong > 0) {
             System.exit(1);
         }
@@ -54,13 +52,27 @@ public final class RandomRunsTest {
     }
 
     private void run() {
+        int style = random.nextInt(6);
+        if (style == 4) {
+            defineSymbol(2, true);
+            defineSymbol(2, random.nextBoolean());
+        }
         makeSymbols();
         for (int i = 0; i < 16; i++) {
-            makeTerm(i, 1 + random.nextInt(random.nextBoolean() ? 4 : 9));
+            makeTerm(i, 1 + random.nextInt(style == 4 ? 22 : random.nextBoolean() ? 4 : 9));
         }
-        int style = random.nextInt(4);
+        for (int i = style == 4 ? 7 : -1; i >= 0; i--) {
+            makeTree(i, 2 + random.nextInt(11));
+        }
+        if (style == 5) {
+            askLaws();
+        }
         int length = 60 + random.nextInt(400);
+        int burning = random.nextInt(3 * length);
         for (int i = 0; i < length && wrong == 0; i++) {
+            if (i == burning) {
+                burn();
+            }
             call(style);
         }
         compareAll();
@@ -87,6 +99,60 @@ public final class RandomRunsTest {
         }
     }
 
+    /** Equations of well-known kinds, whose completion makes many rules go and come. */
+    private void askLaws() {
+        String[] laws = {"m(e,x)=x", "m(i(x),x)=e", "m(m(x,y),z)=m(x,m(y,z))", "i(i(x))=x", "m(x,x)=x", "m(x,x)=e",
+            "m(x,m(x,y))=y", "p(x,e)=x", "m(x,p(y,z))=p(m(x,y),m(x,z))", "m(p(x,y),z)=p(m(x,z),m(y,z))", "p(x,m(x,y))=x",
+            "m(x,p(x,y))=x", "i(m(x,y))=p(i(x),i(y))", "i(p(x,y))=m(i(x),i(y))", "p(x,i(y))=i(p(x,y))", "i(e)=e",
+            "m(x,e)=e", "m(x,i(y))=p(m(x,y),x)", "m(i(x),y)=i(m(x,y))", "p(p(x,y),z)=e", "p(m(x,y),m(z,w))=x"};
+        int[] numbers = {NaiveDesk.NONE, NaiveDesk.NONE, NaiveDesk.NONE, NaiveDesk.NONE};
+        String names = "eimp";
+        while (symbols < 9) {
+            int which = random.nextInt(4);
+            if (numbers[which] == NaiveDesk.NONE) {
+                numbers[which] = symbols;
+            }
+            int arity = which == 0 ? 0 : which == 1 ? 1 : 2;
+            defineSymbol(arity, arity == 2 && random.nextBoolean());
+            if (numbers[0] + numbers[1] + numbers[2] + numbers[3] > 0 && all(numbers)) {
+                break;
+            }
+        }
+        int many = 2 + random.nextInt(4);
+        for (int i = 0; i < many && all(numbers); i++) {
+            String law = laws[random.nextInt(laws.length)];
+            int equals = law.indexOf('=');
+            build(law, 0, 0, names, numbers);
+            build(law, equals + 1, 8, names, numbers);
+            due("equation " + law, desk.equation(0, 8), naive.equation(0, 8));
+            complete(random.nextInt(4));
+        }
+    }
+
+    private static boolean all(int[] numbers) {
+        for (int n : numbers) {
+            if (n == NaiveDesk.NONE) {
+                return false;
+            }
+        }
+        return true;
+    }
+
+    private int build(String text, int at, int place, String names, int[] numbers) {
+        int which = names.indexOf(text.charAt(at));
+        if (which < 0) {
+            putVariable(place, "xyzw".indexOf(text.charAt(at)));
+            return at + 1;
+        }
+        int symbol = numbers[which];
+        int next = at + 1;
+        for (int i = 0; i < arities[symbol]; i++) {
+            next = build(text, next + 1, place + i, names, numbers);
+        }
+        putTerm(place, symbol, place, place + 1);
+        return arities[symbol] > 0 ? next + 1 : next;
+    }
+
     /** Builds a term of about so many symbols, of terms in places behind the place. */
     private void makeTerm(int place, int weight) {
         int symbol = random.nextInt(symbols);
@@ -109,6 +175,17 @@ public final class RandomRunsTest {
         putTerm(place, symbol, place, place + 1);
     }
 
+    /** Builds an even tree of one symbol, which has the most ways if that is commutative. */
+    private void makeTree(int place, int leaves) {
+        if (leaves <= 1) {
+            makeTerm(place, random.nextInt(3));
+            return;
+        }
+        makeTree(place, leaves / 2);
+        makeTree(place + 1, leaves - leaves / 2);
+        putTerm(place, 0, place, place + 1);
+    }
+
     private void putVariable(int place, int variable) {
         due("variable(" + place + ", " + variable + ")", desk.variable(place, variable),
             naive.variable(place, variable));
@@ -128,11 +205,12 @@ public final class RandomRunsTest {
         int b = place();
         int to = place();
         int i = random.nextInt(5) - (random.nextInt(8) == 0 ? 1 : 0);
-        switch (random.nextInt(style == 0 ? 26 : 20)) {
+        switch (random.nextInt(style == 0 || style == 4 ? 26 : 20)) {
             case 0 -> defineSymbol(random.nextInt(5) - 1, random.nextBoolean());
             case 1 -> putVariable(a, random.nextInt(8) - 1);
             case 2, 3 -> putTerm(to, random.nextInt(symbols + 1) - random.nextInt(2), a, b);
-            case 4, 5 -> makeTerm(random.nextInt(16), 1 + random.nextInt(style == 1 ? 22 : 8));
+            case 4 -> makeTree(random.nextInt(8), 2 + random.nextInt(style == 4 ? 11 : 4));
+            case 5 -> makeTerm(random.nextInt(16), 1 + random.nextInt(style == 1 || style == 4 ? 22 : 8));
             case 6 -> due("size(" + a + ")", desk.size(a), naive.size(a));
             case 7 -> due("node(" + a + ", " + i + ")", desk.node(a, i), naive.node(a, i));
             case 8 -> due("same(" + a + ", " + b + ")", desk.same(a, b), naive.same(a, b));
@@ -142,7 +220,7 @@ public final class RandomRunsTest {
             case 12 -> due("unifiers(" + a + ", " + b + ")", desk.unifiers(a, b), naive.unifiers(a, b));
             case 13 -> due("unifier(" + a + ", " + b + ", " + i + ", " + to + ")",
                 desk.unifier(a, b, i, to), naive.unifier(a, b, i, to));
-            case 14 -> due("equation(" + a + ", " + b + ")", desk.equation(a, b), naive.equation(a, b));
+            case 14 -> equation(a, b, style);
             case 15 -> complete(style);
             case 16 -> due("rule(" + i + ", .., " + to + ")", desk.rule(i, i < 2, to), naive.rule(i, i < 2, to));
             case 17 -> due("pair(" + i + ", .., " + to + ")", desk.pair(i, i < 2, to), naive.pair(i, i < 2, to));
@@ -152,10 +230,29 @@ public final class RandomRunsTest {
         }
     }
 
+    /** Leaves little of the fuel, so that it runs out in whatever comes next. */
+    private void burn() {
+        int left = random.nextInt(random.nextBoolean() ? 300 : 5000);
+        makeTree(0, 8);
+        makeTree(1, 4);
+        for (int i = 0; i < 3000 && naive.fuel > left && wrong == 0; i++) {
+            int place = naive.fuel > left + 4000 ? 0 : 1;
+            due("matches(" + place + ", .., )", desk.matches(place, place), naive.matches(place, place));
+        }
+    }
+
     private void match(int a, int b, int i, int to) {
         int variable = random.nextInt(7);
         due("match(" + a + ", " + b + ", " + i + ", " + variable + ", " + to + ")",
             desk.match(a, b, i, variable, to), naive.match(a, b, i, variable, to));
+    }
+
+    /** Mostly such as the order can tell, since one that it can't stops all steps for good. */
+    private void equation(int a, int b, int style) {
+        boolean ordered = naive.greater(a, b) || naive.greater(b, a);
+        if (style == 0 || ordered || random.nextInt(60) == 0) {
+            due("equation(" + a + ", " + b + ")", desk.equation(a, b), naive.equation(a, b));
+        }
     }
 
     private void complete(int style) {
