@@ -249,6 +249,10 @@ public final class CompletionTest {
         Bench.due("a variable", bench.reduced("x5"), "x5");
         Bench.due("sorted again", bench.reduced("c(b,e)"), "c(a,b)");
         Bench.due("within", bench.reduced("f(c(f(f(e)),f(f(f(x3)))))"), "f(c(a,f(x3)))");
+        String long24 = "f(".repeat(23) + "e" + ")".repeat(23);
+        Bench.due("24 nodes", bench.reduced(long24), "f(a)");
+        Bench.due("24 nodes", bench.reduced("f(c(c(c(x0,x0),c(x0,x0)),c(c(x0,x0),c(b,f(f(f(f(f(f(f(b)))))))))))"),
+            "f(c(c(c(x0,x0),c(x0,x0)),c(c(x0,x0),c(b,f(b)))))");
         Bench.due("again and again", bench.reduced("f(f(f(f(f(f(f(e)))))))"), "f(a)");
         EquationDesk desk = bench.desk;
         bench.put(0, "f(f(b))");

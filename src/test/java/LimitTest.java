@@ -5,6 +5,8 @@ public final class LimitTest {
     public static void main(String[] args) {
         tooLongWhenReduced();
         tooLongCriticalPair();
+        justTooLongCriticalPair();
+        tooLongRightTerm();
         tooManyVariables();
         seventeenthRule();
         seventeenthRuleInAnothersStead();
@@ -60,6 +62,42 @@ public final class LimitTest {
                 dueLimited(bench, "f(g(x0,x1)) -> g(x0,g(x0,x0))", "g(" + term + ",x0) = a");
             }
         }
+    }
+
+    /** The same of just 24 and 25 nodes, in the second term and in the first one. */
+    private static void justTooLongCriticalPair() {
+        for (int length = 6; length <= 7; length++) {
+            Bench bench = new Bench("a0 h1 g2 f1");
+            String more = length == 6 ? "g(x0,g(x0,x0))" : "h(g(x0,g(x0,x0)))";
+            bench.equation("f(g(x0,x1))", "h(" + more + ")");
+            Bench.due("complete(30)", bench.desk.complete(30), 1);
+            bench.equation("g(" + "h(".repeat(6) + "a" + ")".repeat(6) + ",x0)", "a");
+            Bench.due("24 or 25 nodes", bench.desk.complete(1), length == 6 ? 0 : 3);
+        }
+        for (int length = 22; length <= 23; length++) {
+            Bench bench = new Bench("a0 h1 g2 f1");
+            bench.equation("f(g(x0,x1))", "a");
+            Bench.due("complete(30)", bench.desk.complete(30), 1);
+            String right = "h(".repeat(length) + "x0" + ")".repeat(length);
+            bench.equation("g(a,x0)", right);
+            Bench.due("24 or 25 nodes", bench.desk.complete(1), length == 22 ? 0 : 3);
+            Bench.due("the pair", bench.pair(0), length == 22 ? "f(" + right + ") = a" : "g(a,x0) = " + right);
+        }
+    }
+
+    private static void tooLongRightTerm() {
+        Bench bench = new Bench("a0 b0 g2 f1 j0");
+        bench.equation("j", "f(f(f(f(a))))");
+        Bench.due("complete(30)", bench.desk.complete(30), 1);
+        bench.equation("f(x0)", "g(x0,x0)");
+        Bench.due("31 nodes", bench.desk.complete(1), 3);
+        dueLimited(bench, "j -> f(f(f(f(a))))", "f(x0) = g(x0,x0)");
+        Bench other = new Bench("a0 b0 g2 f1 j0");
+        other.equation("j", "f(f(f(a)))");
+        Bench.due("complete(30)", other.desk.complete(30), 1);
+        other.equation("f(x0)", "g(x0,x0)");
+        Bench.due("15 nodes", other.desk.complete(30), 1);
+        Bench.due("rules", other.rules(), "j -> g(g(g(a,a),g(a,a)),g(g(a,a),g(a,a))); f(x0) -> g(x0,x0)");
     }
 
     private static void tooManyVariables() {

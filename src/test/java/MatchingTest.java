@@ -8,6 +8,7 @@ public final class MatchingTest {
     public static void main(String[] args) {
         matches();
         matchesInOrder();
+        matchesOfLongTerms();
         match();
         wrongMatches();
         unifiers();
@@ -46,6 +47,17 @@ public final class MatchingTest {
         }
         Bench.due("one match more", bench.match(pattern, term, due.length), "none");
         Bench.due("matches", bench.matches(pattern, term), due.length);
+    }
+
+    private static void matchesOfLongTerms() {
+        Bench bench = new Bench("c2! f1 a0");
+        String leaves = "c(c(x0,x0),c(x0,x0))";
+        String tree = "c(c(" + leaves + "," + leaves + "),c(x0,c(x0,x0)))";
+        Bench.due("21 nodes", bench.matches(tree, tree), 1);
+        String chain = "f(".repeat(23) + "x5" + ")".repeat(23);
+        Bench.due("24 nodes", bench.match(chain, chain.replace("x5", "a"), 0), "x5=a");
+        Bench.due("24 nodes", bench.match("x0", chain, 0), "x0=" + chain);
+        Bench.due("24 nodes", bench.unifier("x0", chain, 0), chain);
     }
 
     private static void matchesInOrder() {
@@ -199,6 +211,10 @@ public final class MatchingTest {
             bench.unifier("g(x0,g(x1,x2))", "g(g(x1,x1),g(g(x2,x2)," + five + "))", 0), "none");
         Bench.due("27 nodes by bindings put into others",
             bench.unifiers("g(x0,g(x1,x2))", "g(g(x1,x1),g(g(x2,x2),f(" + five + ")))"), 33);
+        Bench.due("24 nodes by bindings put into others",
+            bench.unifiers("g(x0,g(x1,x2))", "g(f(g(x1,x1)),g(g(x2,x2)," + five + "))"), 1);
+        Bench.due("25 nodes by bindings put into others",
+            bench.unifiers("g(x0,g(x1,x2))", "g(f(f(g(x1,x1))),g(g(x2,x2)," + five + "))"), 33);
         String eleven = "g(" + five + "," + five + ")";
         Bench.due("a binding of 23 nodes at once",
             bench.unifiers("g(x0,x1)", "g(" + eleven + ",g(x0,x0))"), 1);

@@ -15,6 +15,7 @@ public final class TermsTest {
         same();
         greater();
         greaterOfCommutative();
+        greaterOfLongTerms();
         wrongOrder();
         Bench.finish("TermsTest");
     }
@@ -196,7 +197,7 @@ public final class TermsTest {
             {"c(b,b)", "c(a,b)"}, {"c(a,b)", "c(a,a)"}, {"c(a,f(a))", "c(b,b)"}, {"c(x0,f(x1))", "c(x0,x1)"},
             {"c(f(x0),a)", "c(x0,b)"}, {"c(f(x0),f(x1))", "c(x0,x1)"}, {"c(x0,f(x1))", "c(x1,x0)"},
             {"c(f(x0),g(x1,x1))", "c(x1,f(x0))"}, {"c(x0,x1)", "g(x0,x1)"}, {"c(x0,c(x0,x1))", "c(x0,x1)"},
-            {"c(g(a,a),g(a,a))", "c(f(a),f(f(b)))"}, {"c(g(x0,x1),a)", "c(f(x0),f(x1))"},
+            {"c(b,f(a))", "c(a,f(a))"}, {"c(b,f(a))", "c(b,b)"}, {"c(g(a,a),g(a,a))", "c(f(a),f(f(b)))"}, {"c(g(x0,x1),a)", "c(f(x0),f(x1))"},
         });
         dueNeither(bench, new String[][] {
             {"c(x0,x1)", "c(x0,x1)"}, {"c(x0,x0)", "c(x0,x1)"}, {"c(x0,c(x1,x2))", "c(x2,c(x0,x1))"},
@@ -205,6 +206,14 @@ public final class TermsTest {
         // One for one: of c(b,b) and c(a,b) only one b is lost on each side.
         Bench.due("c(b,b) > c(b,f(a))", bench.greater("c(b,b)", "c(b,f(a))"), false);
         Bench.due("c(b,f(a)) > c(b,b)", bench.greater("c(b,f(a))", "c(b,b)"), true);
+    }
+
+    private static void greaterOfLongTerms() {
+        Bench bench = new Bench("a0 b0 f1 g2");
+        String low = "f(".repeat(23) + "a" + ")".repeat(23);
+        String high = "f(".repeat(23) + "b" + ")".repeat(23);
+        dueGreater(bench, new String[][] {{high, low}, {high, "b"}, {"g(x0,x1)", high}});
+        dueNeither(bench, new String[][] {{high, high}, {high, "x0"}});
     }
 
     private static void wrongOrder() {
