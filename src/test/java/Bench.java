@@ -1,3 +1,5 @@
+import java.util.function.Supplier;
+
 /**
  * A desk whose terms are written as texts: x0 .. x5 are variables, other letters symbols in the
  * order in which they are told, "a0 f1 g2 c2!" (a letter, its arity, and ! if it is commutative).
@@ -5,11 +7,16 @@
  */
 final class Bench {
     private static final int SPARE = 8;
+    private static final int PLACES = 16;
+    private static final int LAST = 15;
+    private static final int FIRST_FUEL = 120000;
     private static int wrong;
 
     final EquationDesk desk = new EquationDesk();
     private final StringBuilder letters = new StringBuilder();
     private final int[] arities = new int[10];
+    private final String[] laid = new String[PLACES];
+    private String held = "";
     private String text = "";
     private int at;
 
@@ -171,5 +178,84 @@ final class Bench {
             shown.append(i > 0 ? "; " : "").append(pair(i));
         }
         return shown.toString();
+    }
+
+    /** Remembers what lies in all places, the rules and the pairs; place 15 may be used for it. */
+    Bench mark() {
+        held = held();
+        for (int i = 0; i < PLACES; i++) {
+            laid[i] = show(i);
+        }
+        return this;
+    }
+
+    /** Nothing of that is otherwise now. */
+    void dueAsMarked(String after) {
+        for (int i = 0; i < PLACES; i++) {
+            due("after " + after + " place " + i, show(i), laid[i]);
+        }
+        due("after " + after + " the rules and pairs", held(), held);
+        laid[LAST] = show(LAST);
+    }
+
+    private String held() {
+        StringBuilder shown = new StringBuilder();
+        for (int i = 0; i < desk.rules(); i++) {
+            shown.append(desk.rule(i, false, LAST) ? show(LAST) : "none").append(" -> ");
+            shown.append(desk.rule(i, true, LAST) ? show(LAST) : "none").append("; ");
+        }
+        for (int i = 0; i < desk.waiting(); i++) {
+            shown.append(desk.pair(i, false, LAST) ? show(LAST) : "none").append(" = ");
+            shown.append(desk.pair(i, true, LAST) ? show(LAST) : "none").append("; ");
+        }
+        return shown.toString();
+    }
+
+    /** A term of so many nodes, one below the other: of f1, and a variable. */
+    static String chain(int nodes, String variable) {
+        return "f(".repeat(nodes - 1) + variable + ")".repeat(nodes - 1);
+    }
+
+    /**
+     * Takes so much FUEL, but for 1, by matches of f1 and x0 in places 13 to 15; false if a call
+     * is refused. A chain of 24 nodes costs 600 with itself, a variable and n nodes 1 + n.
+     */
+    boolean spend(int fuel) {
+        int rest = fuel;
+        boolean done = true;
+        put(13, "x0").put(14, chain(24, "x0"));
+        while (done && rest > 626) {
+            done = desk.matches(14, 14) == 1;
+            rest -= 600;
+        }
+        while (done && rest > 27) {
+            done = desk.matches(13, 14) == 1;
+            rest -= 25;
+        }
+        if (done && rest > 25) {
+            put(15, chain(12, "x0"));
+            done = desk.matches(13, 15) == 1;
+            rest -= 13;
+        }
+        if (done && rest > 1) {
+            put(15, chain(rest - 1, "x0"));
+            done = desk.matches(13, 15) == 1;
+        }
+        return done;
+    }
+
+    /** How much FUEL desks that are made so have left (0 may be 1): tried on one after the other. */
+    static int fuel(Supplier<Bench> made) {
+        int least = 0;
+        int most = FIRST_FUEL;
+        while (least < most) {
+            int middle = (least + most + 1) / 2;
+            if (middle > 1 && made.get().spend(middle)) {
+                least = middle;
+            } else {
+                most = middle - 1;
+            }
+        }
+        return least;
     }
 }

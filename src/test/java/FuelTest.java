@@ -48,8 +48,11 @@ public final class FuelTest {
         Bench bench = burnt(new Bench("a0 f1"), 200);
         dueOut(bench);
         EquationDesk desk = burnt(new Bench("a0 f1"), 199).desk;
-        for (int i = 0; i < 300; i++) {
-            Bench.due("two of 600", i % 2 == 0 ? desk.matches(1, 1) : desk.unifiers(1, 1), 1);
+        for (int i = 0; i < 250; i++) {
+            Bench.due("2 of 600", i % 2 == 0 ? desk.matches(1, 1) : desk.unifiers(1, 1), 1);
+        }
+        for (int i = 0; i < 4; i++) {
+            Bench.due("25 of 100", desk.matches(1, 0), 1);
         }
         Bench.due("none left", desk.matches(1, 1), -1);
     }

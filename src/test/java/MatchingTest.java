@@ -66,6 +66,7 @@ public final class MatchingTest {
         dueMatches(bench, "c(c(x0,x1),c(x2,x3))", "c(c(a,b),c(a,e))",
             "x0=a x1=b x2=a x3=e", "x0=a x1=b x2=e x3=a", "x0=b x1=a x2=a x3=e", "x0=b x1=a x2=e x3=a",
             "x0=a x1=e x2=a x3=b", "x0=a x1=e x2=b x3=a", "x0=e x1=a x2=a x3=b", "x0=e x1=a x2=b x3=a");
+        bench = new Bench("a0 b0 e0 f1 g2 c2!");
         dueMatches(bench, "c(x1,c(x0,x5))", "c(c(a,b),c(e,e))",
             "x0=e x1=c(a,b) x5=e", "x0=a x1=c(e,e) x5=b", "x0=b x1=c(e,e) x5=a");
         dueMatches(bench, "g(c(x0,x1),x0)", "g(c(a,b),b)", "x0=b x1=a");

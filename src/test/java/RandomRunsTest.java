@@ -6,6 +6,8 @@ import java.util.Random;
  */
 public final class RandomRunsTest {
     private static final int SHOWN = 20;
+    /** What later calls on a desk answer is free. */
+    private static final int MOST_CALLS = 512;
 
     private final Random random;
     private final long seed;
@@ -13,6 +15,8 @@ public final class RandomRunsTest {
     private final NaiveDesk naive = new NaiveDesk();
     private final int[] arities = new int[10];
     private int symbols;
+    /** A commutative one, if there is any. */
+    private int swapping = NaiveDesk.NONE;
     private int wrong;
     private int calls;
 
@@ -22,7 +26,7 @@ public final class RandomRunsTest {
     }
 
     public static void main(String[] args) {
-        int runs = args.length > 0 ? Integer.parseInt(args[0]) : 1500;
+        int runs = args.length > 0 ? Integer.parseInt(args[0]) : 3000;
         int wrong = 0;
         for (int i = 0; i < runs && wrong < SHOWN; i++) {
             RandomRunsTest run = new RandomRunsTest(i);
@@ -58,7 +62,7 @@ public final class RandomRunsTest {
             defineSymbol(2, random.nextBoolean());
         }
         makeSymbols();
-        for (int i = 0; i < 16; i++) {
+        for (int i = style == 4 ? 8 : 0; i < 16; i++) {
             makeTerm(i, 1 + random.nextInt(style == 4 ? 22 : random.nextBoolean() ? 4 : 9));
         }
         for (int i = style == 4 ? 7 : -1; i >= 0; i--) {
@@ -67,11 +71,12 @@ public final class RandomRunsTest {
         if (style == 5) {
             askLaws();
         }
-        int length = 60 + random.nextInt(400);
-        int burning = random.nextInt(3 * length);
-        for (int i = 0; i < length && wrong == 0; i++) {
-            if (i == burning) {
+        int end = Math.min(MOST_CALLS - 100, calls + 60 + random.nextInt(350));
+        int burning = calls + random.nextInt(3 * Math.max(1, end - calls));
+        while (calls < end && wrong == 0) {
+            if (calls >= burning) {
                 burn();
+                burning = MOST_CALLS;
             }
             call(style);
         }
@@ -96,6 +101,7 @@ public final class RandomRunsTest {
         if (got >= 0 && got < 10) {
             arities[got] = arity;
             symbols = got + 1;
+            swapping = commutative ? got : swapping;
         }
     }
 
@@ -232,12 +238,23 @@ public final class RandomRunsTest {
 
     /** Leaves little of the fuel, so that it runs out in whatever comes next. */
     private void burn() {
-        int left = random.nextInt(random.nextBoolean() ? 300 : 5000);
-        makeTree(0, 8);
-        makeTree(1, 4);
-        for (int i = 0; i < 3000 && naive.fuel > left && wrong == 0; i++) {
-            int place = naive.fuel > left + 4000 ? 0 : 1;
-            due("matches(" + place + ", .., )", desk.matches(place, place), naive.matches(place, place));
+        int left = random.nextInt(random.nextBoolean() ? 300 : 3000);
+        if (swapping == NaiveDesk.NONE) {
+            defineSymbol(2, true);
+        }
+        if (swapping == NaiveDesk.NONE) {
+            return;
+        }
+        // Trees of 2, 4 and 8 equal leaves, which cost as much as stands below with themselves.
+        putVariable(15, 0);
+        for (int tree = 0; tree < 3; tree++) {
+            putTerm(tree, swapping, tree == 0 ? 15 : tree - 1, tree == 0 ? 15 : tree - 1);
+        }
+        int[] costs = {14, 98, 1794};
+        for (int tree = 2; tree >= 0; tree--) {
+            while (naive.fuel > left + costs[tree] && !naive.out && calls < MOST_CALLS - 100 && wrong == 0) {
+                due("matches(" + tree + ", .. )", desk.matches(tree, tree), naive.matches(tree, tree));
+            }
         }
     }
 
@@ -265,19 +282,24 @@ public final class RandomRunsTest {
         due("waiting()", desk.waiting(), naive.waiting());
     }
 
+    private boolean goesOn() {
+        return wrong == 0 && calls < MOST_CALLS - 2;
+    }
+
     private void compareAll() {
-        for (int p = 0; p < 16; p++) {
-            comparePlace("place " + p, p);
-        }
         due("rules()", desk.rules(), naive.rules());
         due("waiting()", desk.waiting(), naive.waiting());
-        for (int i = 0; i < naive.rules() && wrong == 0; i++) {
+        for (int p = 0; p < 16 && goesOn(); p++) {
+            comparePlace("place " + p, p);
+        }
+        for (int i = 0; i < naive.rules() && goesOn(); i++) {
             due("rule", desk.rule(i, false, 0), naive.rule(i, false, 0));
             due("rule", desk.rule(i, true, 1), naive.rule(i, true, 1));
             comparePlace("left " + i, 0);
             comparePlace("right " + i, 1);
         }
-        for (int i = 0; i < naive.waiting() && wrong == 0; i++) {
+        int first = random.nextInt(1 + naive.waiting());
+        for (int i = first; i < naive.waiting() && goesOn(); i++) {
             due("pair", desk.pair(i, false, 0), naive.pair(i, false, 0));
             due("pair", desk.pair(i, true, 1), naive.pair(i, true, 1));
             comparePlace("first " + i, 0);
@@ -286,9 +308,11 @@ public final class RandomRunsTest {
     }
 
     private void comparePlace(String what, int place) {
-        due(what, desk.size(place), naive.size(place));
-        for (int i = 0; i < naive.size(place) && wrong == 0; i++) {
+        for (int i = 0; i < naive.size(place) && goesOn(); i++) {
             due(what + " node " + i, desk.node(place, i), naive.node(place, i));
+        }
+        if (goesOn()) {
+            due(what, desk.size(place), naive.size(place));
         }
     }
 }
