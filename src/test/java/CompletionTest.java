@@ -15,6 +15,8 @@ public final class CompletionTest {
         newRuleIsRenamed();
         commutativeCriticalPairs();
         criticalPairsInOrder();
+        variablesAroundANode();
+        criticalPairsAreSortedThenRenamed();
         lightestPairFirst();
         stuck();
         numberOfSteps();
@@ -157,6 +159,37 @@ public final class CompletionTest {
         dueStep(bench, 0, "g(f(x0),x1) -> x0; f(a) -> b; g(b,x0) -> a", "f(g(x0,x1)) = x1");
         dueStep(bench, 0, "g(f(x0),x1) -> x0; f(a) -> b; g(b,x0) -> a; f(g(x0,x1)) -> x1",
             "g(x0,x1) = g(x2,x0); f(x0) = x1; f(a) = x0; x0 = x0");
+    }
+
+    /** Variables before and behind the node that is replaced are those of the other rule still. */
+    private static void variablesAroundANode() {
+        Bench bench = new Bench("a0 k2 h1 g2 f1");
+        bench.equation("g(x0,g(f(x1),x2))", "k(x0,k(x1,x2))");
+        dueStep(bench, 0, "g(x0,g(f(x1),x2)) -> k(x0,k(x1,x2))",
+            "k(x0,k(x1,x2)) = k(x0,k(x1,x2)); g(x0,k(f(x1),k(x2,x3))) = k(x0,k(x1,g(f(x2),x3)))");
+        bench = new Bench("a0 k2 h1 g2 f1");
+        bench.equation("g(x1,g(f(x0),x2))", "h(x2)");
+        Bench.due("complete(1)", bench.desk.complete(1), 0);
+        bench.equation("f(h(x1))", "x1");
+        Bench.due("complete(1)", bench.desk.complete(1), 0);
+        Bench.due("complete(1)", bench.desk.complete(1), 0);
+        Bench.due("rules", bench.rules(), "g(x0,g(f(x1),x2)) -> h(x2); f(h(x0)) -> x0");
+        Bench.due("the pair", bench.pair(1), "g(x0,g(x1,x2)) = h(x2)");
+    }
+
+    private static void criticalPairsAreSortedThenRenamed() {
+        Bench bench = new Bench("a0 f1 g2 k1 c2!");
+        bench.equation("c(f(x0),g(x1,x2))", "a");
+        Bench.due("complete(30)", bench.desk.complete(30), 1);
+        bench.equation("f(k(x0))", "k(x0)");
+        Bench.due("complete(1)", bench.desk.complete(1), 0);
+        Bench.due("the first term", bench.pair(0), "c(g(x0,x1),k(x2)) = a");
+        bench = new Bench("a0 g2 k2 f1 c2! h1");
+        bench.equation("h(f(k(x0,x1)))", "c(x0,x1)");
+        Bench.due("complete(30)", bench.desk.complete(30), 1);
+        bench.equation("f(k(g(x0,x1),x2))", "a");
+        Bench.due("complete(1)", bench.desk.complete(1), 0);
+        Bench.due("the second term", bench.pair(0), "h(a) = c(x0,g(x1,x2))");
     }
 
     private static void lightestPairFirst() {

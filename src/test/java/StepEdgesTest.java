@@ -22,17 +22,20 @@ public final class StepEdgesTest {
         sixVariables();
         thirtySteps();
         otherNumbersOfSteps();
+        untilNoPairWaits();
         answersInOrder();
         limitFirst();
         fewestNodesTogether();
         sameTermsGo();
         rulesThatGo();
+        nodesThatAreLookedAt();
         numbersOfRules();
         placesOfRules();
         numbersOfPairs();
         placesOfPairs();
         placesOfReduce();
         nodesOfReduce();
+        sortedAfterARewriting();
         rulesThatAreLookedAt();
         reduceWithoutFuel();
         placesOfProve();
@@ -97,6 +100,10 @@ public final class StepEdgesTest {
         Bench.due("one", bench.pair(2), "x0 = x0");
         bench.equation("c(g(x2,x1),g(x2,x2))", "x1");
         Bench.due("sorted again", bench.pair(3), "c(g(x0,x0),g(x0,x1)) = x1");
+        bench = new Bench("a0 f1 k2 g2");
+        bench.equation("g(x0,g(x1,g(x2,g(x3,g(x4,f(x5))))))", "k(x5,k(a,x0))");
+        Bench.due("complete(1)", bench.desk.complete(1), 0);
+        Bench.due("a rule of six", bench.reduced("g(x5,g(a,g(a,g(a,g(a,f(f(x1)))))))"), "k(f(x1),k(a,x5))");
     }
 
     /** "At most n STEPS (0 .. 30 .. )" */
@@ -139,6 +146,23 @@ public final class StepEdgesTest {
             Bench.due("none is tried again", bench.desk.complete(n), 0);
             bench.dueAsMarked("complete(" + n + ")");
         }
+    }
+
+    /** "until no pair waits": then nothing is tried, and nothing is taken. */
+    private static void untilNoPairWaits() {
+        Supplier<Bench> made = () -> {
+            Bench bench = new Bench("a0 b0 f1");
+            bench.equation("f(x0)", "a");
+            bench.equation("f(f(b))", "f(b)");
+            Bench.due("all go", bench.desk.complete(30), 1);
+            return bench;
+        };
+        dueCost("no steps", made, () -> {
+            Bench bench = made.get().mark();
+            Bench.due("complete(30)", bench.desk.complete(30), 1);
+            bench.dueAsMarked("no steps");
+            return bench;
+        }, 0);
     }
 
     /** "0 if pairs wait still, 1 if none, 2 if a step was tried that can't be done .., 3 .." */
@@ -231,6 +255,32 @@ public final class StepEdgesTest {
             Bench.due(one[0] + " " + one[2] + " by " + one[1], bench.rules(),
                 one[2].equals("goes") ? added : old + "; " + added);
             Bench.due("it waits", bench.pair(0).equals(one[0] + " = i"), one[2].equals("goes"));
+        }
+    }
+
+    /**
+     * The same by its FUEL, with that for its critical pairs: nodes of another symbol or with fewer nodes take
+     * none; "(the first one ends the search)"; "(all matches at such a node are looked for)".
+     */
+    private static void nodesThatAreLookedAt() {
+        Object[][] all = {
+            {"h(f(b))", "f(f(x0))", (5 + 3) + (6 + 4 + 2) + (5 + 3)}, {"h(h(h(b)))", "f(f(x0))", (6 + 4 + 2) + (5 + 3)},
+            {"h(f(f(b)))", "f(f(x0))", (6 + 4 + 2) + (6 + 4 + 2) + (5 + 3)}, {"h(f(f(b)))", "f(b)", (5 + 3) + (4 + 2) + 4},
+            {"c(f(b),h(f(b)))", "f(b)", (4 + 2) + 4}, {"h(c(b,h(b)))", "c(x0,x1)", (7 + 5 + 5) + (6 + 4 + 4)},
+        };
+        for (Object[] one : all) {
+            Supplier<Bench> made = () -> {
+                Bench bench = new Bench("i0 b0 f1 h1 c2!");
+                bench.equation((String) one[0], "i");
+                Bench.due("complete(30)", bench.desk.complete(30), 1);
+                return bench;
+            };
+            dueCost(one[1] + " and " + one[0], made, () -> {
+                Bench bench = made.get();
+                bench.equation((String) one[1], "i");
+                Bench.due("complete(1)", bench.desk.complete(1), 0);
+                return bench;
+            }, (Integer) one[2]);
         }
     }
 
@@ -385,6 +435,22 @@ public final class StepEdgesTest {
         Bench.due("24, one argument after the other", bench.reduced("g(k(h(a)),h(f(" + ten + ")))"),
             "g(a,h(g(" + ten + "," + ten + ")))");
         Bench.due("26 if the other comes first", bench.reduced("g(h(f(" + ten + ")),k(h(a)))"), "none");
+    }
+
+    /**
+     * "(Whatever is put into a term .., it is sorted again.)": so f(p(a)) comes first, becomes a,
+     * and leaves room for what f(q(..)) becomes: 23 nodes, where it would have been 25.
+     */
+    private static void sortedAfterARewriting() {
+        Bench bench = new Bench("a0 h1 g2 p1 q1 f1 c2! r2");
+        bench.equation("f(p(x0))", "a");
+        bench.equation("f(q(x0))", "g(q(x0),q(x0))");
+        bench.equation("r(x0,x1)", "c(f(x0),f(x1))");
+        Bench.due("complete(30)", bench.desk.complete(30), 1);
+        Bench.due("rules()", bench.desk.rules(), 3);
+        String ten = "q(" + Bench.chain(9, "a").replace('f', 'h') + ")";
+        Bench.due("turned", bench.reduced("r(" + ten + ",p(a))"), "c(a,g(" + ten + "," + ten + "))");
+        Bench.due("as it is", bench.reduced("r(p(a)," + ten + ")"), "c(a,g(" + ten + "," + ten + "))");
     }
 
     /** "only of those whose left term has its symbol and not more nodes": others take no FUEL. */
