@@ -29,9 +29,11 @@ public final class LimitTest {
         waysOfTwoTerms();
         bindingsOnTheWay();
         rewritings();
+        rewritingsOfRightTerms();
         fuelOfCriticalPairs();
         fuelOfReducedTerms();
         fuelOfRulesThatGo();
+        fuelOfRightTerms();
         pairsWithoutFuel();
         callsAfterALimit();
         refusedCallsMeetNoLimit();
@@ -352,8 +354,8 @@ public final class LimitTest {
      * g(y,q(a)) becomes q(a) by 2, 6, 14, 44, 134, 404 rewritings for y = a, b, d, e, i, j: p(a)
      * stands inside for what becomes q(a), so that no right term can be reduced by itself.
      */
-    private static Bench counter() {
-        return completed("a0 b0 d0 e0 i0 j0 q1 p1 g2 f1", "p(a)", "q(a)", "g(a,q(x0))", "p(x0)",
+    private static Bench counter(String symbols) {
+        return completed(symbols, "p(a)", "q(a)", "g(a,q(x0))", "p(x0)",
             "g(b,q(x0))", power("aa", "p(x0)"), "g(d,q(x0))", power("bb", "p(x0)"),
             "g(e,q(x0))", power("ddd", "p(x0)"), "g(i,q(x0))", power("eee", "p(x0)"),
             "g(j,q(x0))", power("iii", "p(x0)"));
@@ -364,27 +366,49 @@ public final class LimitTest {
         String thousand = power("jjied", "q(a)");
         String oneMore = power("jjied", "p(a)");
         for (int side = 0; side < 2; side++) {
-            Bench bench = counter();
+            Bench bench = counter("a0 b0 d0 e0 i0 j0 q1 p1 g2 f1");
             bench.equation(side == 0 ? thousand : "a", side == 0 ? "a" : thousand);
             dueDone("1000 rewritings", bench, 0, "q(a) -> a");
-            bench = counter();
+            bench = counter("a0 b0 d0 e0 i0 j0 q1 p1 g2 f1");
             bench.equation(side == 0 ? oneMore : "a", side == 0 ? "a" : oneMore);
             Bench.due("1001 rewritings", bench.desk.complete(1), 3);
             Bench.due("rules()", bench.desk.rules(), 7);
             Bench.due("the pair", bench.pair(0), side == 0 ? oneMore + " = a" : "a = " + oneMore);
             dueNoFurther("1001 rewritings", bench);
         }
-        Bench bench = counter();
+        Bench bench = counter("a0 b0 d0 e0 i0 j0 q1 p1 g2 f1");
         bench.put(0, oneMore).put(1, "f(x2)").put(2, thousand);
         Bench.due("reduce: 1001 rewritings", bench.desk.reduce(0, 1), false);
         Bench.due("reduce: in its own place", bench.desk.reduce(0, 0), false);
         Bench.due("the place stays", bench.show(1), "f(x2)");
         Bench.due("its own stays", bench.show(0), oneMore);
         Bench.due("that meets no LIMIT", bench.desk.complete(1), 1);
-        bench = counter();
+        bench = counter("a0 b0 d0 e0 i0 j0 q1 p1 g2 f1");
         bench.put(2, thousand);
         Bench.due("reduce: 1000 rewritings", bench.desk.reduce(2, 1), true);
         Bench.due("it", bench.show(1), "q(a)");
+    }
+
+    /** The same of a right term, which can be reduced when m can: m, p(a) and 998, or m and 1000. */
+    private static void rewritingsOfRightTerms() {
+        for (int more = 0; more < 2; more++) {
+            String right = more == 0 ? power("jjiebb", "p(m)") : power("jjied", "m");
+            Bench bench = counter("a0 b0 d0 e0 i0 j0 q1 p1 m0 g2");
+            bench.equation("g(g(a,a),a)", right);
+            Bench.due("complete(30)", bench.desk.complete(30), 1);
+            Bench.due("the rule", bench.rule(7), "g(g(a,a),a) -> " + right);
+            bench.equation("m", more == 0 ? "a" : "q(a)");
+            if (more == 0) {
+                dueDone("1000 rewritings", bench, 0, "m -> a");
+                Bench.due("the rule", bench.rule(7), "g(g(a,a),a) -> q(a)");
+            } else {
+                Bench.due("1001 rewritings", bench.desk.complete(1), 3);
+                Bench.due("the rule", bench.rule(7), "g(g(a,a),a) -> " + right);
+                Bench.due("rules()", bench.desk.rules(), 8);
+                Bench.due("pairs", bench.pairs(), "m = q(a)");
+                dueNoFurther("1001 rewritings", bench);
+            }
+        }
     }
 
     private static Bench left(Supplier<Bench> made, int fuel) {
@@ -430,6 +454,20 @@ public final class LimitTest {
         dueLimit("18 of 17", left(made, 17));
         dueLimit("12 of 11", left(made, 11));
         dueLimit("6 of 5", left(made, 5));
+    }
+
+    /** The same of right terms: 2 for f(p), 10 for k(p), which becomes k(a) and then f(p), 2 for p and itself. */
+    private static void fuelOfRightTerms() {
+        Supplier<Bench> made = () -> {
+            Bench bench = completed("a0 f1 p0 k1 j0", "k(a)", "f(p)", "j", "k(p)");
+            bench.equation("p", "a");
+            return bench;
+        };
+        dueDone("14 of 14", left(made, 14), 0, "p -> a");
+        int[] less = {13, 11, 10, 9, 3, 2, 1};
+        for (int fuel : less) {
+            dueLimit("14 of " + fuel, left(made, fuel));
+        }
     }
 
     /** "(what takes none is: two variables are proved, reduced, and a step's pair, as ever)" */
