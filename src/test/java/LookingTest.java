@@ -141,11 +141,42 @@ public final class LookingTest {
             5 + 19 + 1 + 5 + 3 + 13 + 2 + 12);
     }
 
+    /** The FUEL that a NaiveDesk spends for the unifiers of two terms that are too many. */
+    private static int naiveCost(String a, String b) {
+        Bench bench = new Bench(SYMBOLS).put(0, a).put(1, b);
+        NaiveDesk naive = new NaiveDesk();
+        for (String symbol : SYMBOLS.split(" ")) {
+            naive.symbol(symbol.charAt(1) - '0', symbol.endsWith("!"));
+        }
+        copy(bench.desk, 0, 0, naive, 0);
+        copy(bench.desk, 1, 0, naive, 1);
+        Bench.due("told naively", naive.unifiers(0, 1), 33);
+        return ALL - naive.fuel;
+    }
+
+    /** Builds a term from a node on in a place, its arguments in those behind; the node behind it. */
+    private static int copy(EquationDesk from, int place, int node, NaiveDesk naive, int to) {
+        int code = from.node(place, node);
+        int next = node + 1;
+        if (code >= 100) {
+            naive.variable(to, code - 100);
+            return next;
+        }
+        int arity = SYMBOLS.split(" ")[code].charAt(1) - '0';
+        int spare = Math.max(to, 1) + 1;
+        for (int i = 0; i < arity; i++) {
+            next = copy(from, place, next, naive, spare + i);
+        }
+        naive.term(to, code, spare, spare + 1);
+        return next;
+    }
+
     /**
      * The root's crosswise way comes last of all: if the looking ends before, it costs the same as
      * with a root that isn't commutative.
      */
     private static void dueEndBeforeTheRootTurns(String what, String a, String b, int due) {
+        Bench.due(what + ", told naively", naiveCost("g(" + a + ")", "g(" + b + ")"), due);
         Bench.due(what, cost(bench -> Bench.due(what, bench.unifiers("g(" + a + ")", "g(" + b + ")"), 33)), due);
         Bench.due(what, cost(bench -> Bench.due(what, bench.unifiers("c(" + a + ")", "c(" + b + ")"), 33)), due);
         Bench.due(what, cost(bench -> Bench.due(what, bench.unifier("c(" + a + ")", "c(" + b + ")", 0), "none")), due);
